@@ -1,0 +1,152 @@
+import java.lang.reflect.Field;
+
+/** Promise 12: count. No call can break the tree, so this test reaches inside to do it. */
+public final class CountTest {
+    private static final int FULL = 160;
+
+    public static void main(String[] args) throws ReflectiveOperationException {
+        countIsSoundInEveryOrderOfPuts();
+        countLeavesAllElse();
+        balancedTreesAreLow();
+        wrongHeightsAreSeen();
+        wrongLeaningsAreSeen();
+        wrongOrdersAreSeen();
+        Check.finish();
+    }
+
+    private static MomentTree filled(int versions, int step, boolean checked) {
+        MomentTree tree = new MomentTree();
+        for (int i = 0; i < versions; i++) {
+            int turn = i * step % versions;
+            tree.feed(turn / 2, 0, 0, 0, 0);
+            tree.put(1 - turn % 2, turn, 1);
+            if (checked) {
+                Check.due("count in step " + step, tree.count(), i + 1);
+            }
+        }
+        return tree;
+    }
+
+    private static void countIsSoundInEveryOrderOfPuts() {
+        int[] steps = {1, FULL - 1, 3, 7, 47, 61, 81, 99, 113};
+        for (int step : steps) {
+            filled(FULL, step, true);
+        }
+    }
+
+    private static void countLeavesAllElse() {
+        MomentTree tree = filled(5, 1, false);
+        tree.first();
+        Check.write(tree, "abc");
+        Check.due("count", tree.count(), 5);
+        Check.due("count again", tree.count(), 5);
+        Check.due("the tape stays", Check.tapeLength(tree), 3);
+        Check.due("current stays", tree.current(1), 0);
+    }
+
+    private static void balancedTreesAreLow() throws ReflectiveOperationException {
+        for (int step : new int[] {1, FULL - 1}) {
+            int height = (int) get(root(filled(FULL, step, false)), "height");
+            Check.due("height of 160 put in step " + step, height, 8);
+        }
+    }
+
+    private static void wrongHeightsAreSeen() throws ReflectiveOperationException {
+        for (String way : new String[] {"", "left", "right", "left right", "right left left"}) {
+            for (int change : new int[] {-1, 1}) {
+                MomentTree tree = filled(20, 1, false);
+                Object at = follow(tree, way);
+                int height = (int) get(at, "height");
+                set(at, "height", height + change);
+                Check.due("height changed at root " + way, tree.count(), -1);
+                set(at, "height", height);
+                Check.due("height mended at root " + way, tree.count(), 20);
+            }
+        }
+    }
+
+    /** Four versions are three high on one side only: without the other, the leaning alone is wrong. */
+    private static void wrongLeaningsAreSeen() throws ReflectiveOperationException {
+        leaningIsSeen(filled(4, 1, false), "left");
+        leaningIsSeen(filled(4, 3, false), "right");
+    }
+
+    private static void leaningIsSeen(MomentTree tree, String lopped) throws ReflectiveOperationException {
+        Object root = root(tree);
+        Check.due("the side to be lopped is the low one", (int) get(get(root, lopped), "height"), 1);
+        Check.due("leaning by one", tree.count(), 4);
+        set(root, lopped, null);
+        Check.due("leaning by two without " + lopped, tree.count(), -1);
+    }
+
+    private static void wrongOrdersAreSeen() throws ReflectiveOperationException {
+        for (String way : new String[] {"", "left", "right", "left right", "right left left"}) {
+            MomentTree tree = filled(20, 1, false);
+            Object at = follow(tree, way);
+            byte[] key = (byte[]) get(at, "key");
+            set(at, "key", new byte[] {-1});
+            Check.due("key changed at root " + way, tree.count(), -1);
+            set(at, "key", key);
+            Check.due("key mended at root " + way, tree.count(), 20);
+        }
+        turnedSidesAreSeen();
+        sameKeysAndMomentsAreSeen();
+        farNeighboursAreSeen();
+    }
+
+    private static void turnedSidesAreSeen() throws ReflectiveOperationException {
+        MomentTree tree = filled(3, 1, false);
+        Object root = root(tree);
+        Object left = get(root, "left");
+        set(root, "left", get(root, "right"));
+        set(root, "right", left);
+        Check.due("sides turned", tree.count(), -1);
+    }
+
+    private static void sameKeysAndMomentsAreSeen() throws ReflectiveOperationException {
+        for (String side : new String[] {"left", "right"}) {
+            MomentTree tree = filled(3, 1, false);
+            Object root = root(tree);
+            set(get(root, side), "key", get(root, "key"));
+            set(get(root, side), "moment", get(root, "moment"));
+            Check.due("the same twice, " + side, tree.count(), -1);
+        }
+    }
+
+    /** In order against its own top, but not against the top above that. */
+    private static void farNeighboursAreSeen() throws ReflectiveOperationException {
+        MomentTree left = filled(7, 1, false);
+        set(follow(left, "left right"), "key", new byte[] {1});
+        Check.due("the left side's last above the root", left.count(), -1);
+        MomentTree right = filled(7, 1, false);
+        set(follow(right, "right left"), "key", new byte[] {0});
+        Check.due("the right side's first below the root", right.count(), -1);
+    }
+
+    private static Object root(MomentTree tree) throws ReflectiveOperationException {
+        return get(get(tree, "tree"), "root");
+    }
+
+    private static Object follow(MomentTree tree, String way) throws ReflectiveOperationException {
+        Object at = root(tree);
+        for (String side : way.isEmpty() ? new String[0] : way.split(" ")) {
+            at = get(at, side);
+        }
+        return at;
+    }
+
+    private static Object get(Object holder, String name) throws ReflectiveOperationException {
+        return field(holder, name).get(holder);
+    }
+
+    private static void set(Object holder, String name, Object value)
+            throws ReflectiveOperationException {
+        field(holder, name).set(holder, value);
+    }
+
+    private static Field field(Object holder, String name) throws ReflectiveOperationException {
+        Field field = holder.getClass().getDeclaredField(name);
+        field.setAccessible(true);
+        return field;
+    }
+}
