@@ -1,11 +1,14 @@
 import java.lang.reflect.Field;
+import java.util.ArrayList;
+import java.util.List;
 
 /** Promise 12: count. No call can break the tree, so this test reaches inside to do it. */
 public final class CountTest {
     private static final int FULL = 160;
 
     public static void main(String[] args) throws ReflectiveOperationException {
-        countIsSoundInEveryOrderOfPuts();
+        countIsSoundInManyOrdersOfPuts();
+        fiveAreSoundInEveryOrderOfPuts();
         countLeavesAllElse();
         balancedTreesAreLow();
         wrongHeightsAreSeen();
@@ -27,10 +30,27 @@ public final class CountTest {
         return tree;
     }
 
-    private static void countIsSoundInEveryOrderOfPuts() {
+    private static void countIsSoundInManyOrdersOfPuts() {
         int[] steps = {1, FULL - 1, 3, 7, 47, 61, 81, 99, 113};
         for (int step : steps) {
             filled(FULL, step, true);
+        }
+    }
+
+    /** Among these, each of the four ways in which a tree can come to lean too far. */
+    private static void fiveAreSoundInEveryOrderOfPuts() throws ReflectiveOperationException {
+        for (int order = 0; order < 5 * 4 * 3 * 2; order++) {
+            MomentTree tree = new MomentTree();
+            List<Integer> left = new ArrayList<>(List.of(0, 1, 2, 3, 4));
+            int rest = order;
+            for (int put = 1; put <= 5; put++) {
+                int key = left.remove(rest % left.size());
+                rest /= left.size() + 1;
+                tree.feed(key, 0, 0, 0, 0);
+                tree.put(0, key, 1);
+                Check.due("count of five in order " + order, tree.count(), put);
+            }
+            Check.due("height of five in order " + order, (int) get(root(tree), "height"), 3);
         }
     }
 
