@@ -1,10 +1,16 @@
 import java.nio.charset.StandardCharsets;
 import java.util.Arrays;
+import java.util.NoSuchElementException;
+import java.util.function.Supplier;
 
 /** What the tests share: saying what was due, and writing keys on a tape. */
 final class Check {
     interface Call {
         long answer();
+    }
+
+    interface CallOn {
+        long answer(MomentTree tree);
     }
 
     private static int asDue = 0;
@@ -14,7 +20,11 @@ final class Check {
     }
 
     static void due(String what, long got, long want) {
-        if (got == want) {
+        due(what, Long.toString(got), Long.toString(want));
+    }
+
+    static void due(String what, String got, String want) {
+        if (got.equals(want)) {
             asDue++;
         } else {
             wrong(what + ": answered " + got + ", due is " + want);
@@ -41,34 +51,65 @@ final class Check {
         wrong(what + ": " + got + ", due is a throw of " + want.getName());
     }
 
+    /** Makes the call on a new object, and tells all of that object after it threw. */
+    static Told afterThrow(String what, Supplier<MomentTree> made,
+            Class<? extends RuntimeException> want, CallOn call) {
+        MomentTree tree = made.get();
+        dueThrow(what, want, () -> call.answer(tree));
+        return Told.of(tree);
+    }
+
+    /** The call throws, and all that can be told is as in an object on which it was not made. */
+    static void changesNothing(String what, Supplier<MomentTree> made,
+            Class<? extends RuntimeException> want, CallOn call) {
+        Told before = Told.of(made.get());
+        Told after = afterThrow(what, made, want, call);
+        due(what + ", current", after.current(), before.current());
+        due(what + ", versions", after.versions(), before.versions());
+        due(what + ", tape", after.tape(), before.tape());
+    }
+
+    /** Asks in a way that leaves a tape of that length as it is. */
+    static void dueTape(String what, MomentTree tree, int length) {
+        dueThrow(what + ": the tape is no longer", IllegalArgumentException.class,
+                () -> tree.end(length + 1));
+        due(what + ": the tape's length", tree.end(length), length);
+    }
+
+    static void dueNoneCurrent(String what, MomentTree tree) {
+        for (int number = 0; number < 4; number++) {
+            int asked = number;
+            dueThrow(what + ": none is current", NoSuchElementException.class,
+                    () -> tree.current(asked));
+        }
+        dueThrow(what + ": none has a word", NoSuchElementException.class, () -> tree.word(0));
+    }
+
     /** Ends the test: without one check it has failed too. */
     static void finish() {
         System.out.println(asDue + " checks as due, " + wrong + " not");
         System.exit(wrong == 0 && asDue > 0 ? 0 : 1);
     }
 
-    static byte[] bytes(String text) {
-        return text.getBytes(StandardCharsets.ISO_8859_1);
-    }
-
     static String repeated(char letter, int times) {
         return String.valueOf(letter).repeat(times);
     }
 
-    /** Writes the key on an empty tape. */
-    static void write(MomentTree tree, byte[] key) {
-        for (int from = 0; from < key.length; from += 20) {
-            byte[] part = Arrays.copyOf(Arrays.copyOfRange(key, from, key.length), 20);
+    /** Writes the bytes, at most 60, on an empty tape. */
+    static void write(MomentTree tree, byte[] bytes) {
+        for (int from = 0; from < bytes.length; from += 20) {
+            byte[] part = Arrays.copyOf(Arrays.copyOfRange(bytes, from, bytes.length), 20);
             tree.feed(number(part, 0), number(part, 4), number(part, 8), number(part, 12),
                     number(part, 16));
         }
-        if (key.length % 20 != 0) {
-            tree.end(key.length);
+        if (bytes.length % 20 != 0) {
+            tree.end(bytes.length);
         }
     }
 
-    static void write(MomentTree tree, String key) {
-        write(tree, bytes(key));
+    /** A character of the text, 0 to 255, is a byte. */
+    static void write(MomentTree tree, String text) {
+        write(tree, text.getBytes(StandardCharsets.ISO_8859_1));
     }
 
     static int put(MomentTree tree, String key, int moment, int place, int size) {
@@ -86,21 +127,19 @@ final class Check {
         return tree.seek(moment, beyond);
     }
 
+    /** 160 versions, each of a key of its own, in 320 calls; the places are in the keys' order. */
+    static MomentTree full() {
+        MomentTree tree = new MomentTree();
+        for (int i = 0; i < 160; i++) {
+            int turn = i * 37 % 160;
+            tree.feed(turn, 0, 0, 0, 0);
+            tree.put(3, turn, 1);
+        }
+        return tree;
+    }
+
     private static int number(byte[] bytes, int from) {
         return (bytes[from] & 255) << 24 | (bytes[from + 1] & 255) << 16
                 | (bytes[from + 2] & 255) << 8 | bytes[from + 3] & 255;
-    }
-
-    /** The length that the tape has: the greatest that it can be ended at, which leaves it as it is. */
-    static int tapeLength(MomentTree tree) {
-        int length = -1;
-        for (int n = 60; n >= 0 && length < 0; n--) {
-            try {
-                length = tree.end(n);
-            } catch (IllegalArgumentException tooLong) {
-                length = -1;
-            }
-        }
-        return length;
     }
 }

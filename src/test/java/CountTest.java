@@ -7,6 +7,7 @@ public final class CountTest {
     private static final int FULL = 160;
 
     public static void main(String[] args) throws ReflectiveOperationException {
+        countTellsHowMany();
         countIsSoundInManyOrdersOfPuts();
         fiveAreSoundInEveryOrderOfPuts();
         countLeavesAllElse();
@@ -30,6 +31,28 @@ public final class CountTest {
         return tree;
     }
 
+    /** "How many VERSIONS there are": from none to 160, whatever was refused. */
+    private static void countTellsHowMany() {
+        MomentTree tree = new MomentTree();
+        Check.due("of none", tree.count(), 0);
+        Check.put(tree, "a", 1, 1, 1);
+        Check.due("of one", tree.count(), 1);
+        Check.put(tree, "a", 1, 2, 2);
+        Check.due("the same again", tree.count(), 1);
+        Check.put(tree, "a", 2, 2, 2);
+        Check.due("another moment", tree.count(), 2);
+        Check.dueThrow("an empty tape", IllegalArgumentException.class, () -> tree.put(3, 1, 1));
+        Check.due("after a refusal", tree.count(), 2);
+        tree.clear();
+        Check.due("cleared", tree.count(), 0);
+        MomentTree full = Check.full();
+        Check.due("of 160", full.count(), FULL);
+        full.feed(-1, 0, 0, 0, 0);
+        Check.dueThrow("161", IllegalStateException.class, () -> full.put(3, 1, 1));
+        Check.due("160 stay", full.count(), FULL);
+    }
+
+    /** "-1 if ...": no order of puts leads there. */
     private static void countIsSoundInManyOrdersOfPuts() {
         int[] steps = {1, FULL - 1, 3, 7, 47, 61, 81, 99, 113};
         for (int step : steps) {
@@ -60,10 +83,11 @@ public final class CountTest {
         Check.write(tree, "abc");
         Check.due("count", tree.count(), 5);
         Check.due("count again", tree.count(), 5);
-        Check.due("the tape stays", Check.tapeLength(tree), 3);
+        Check.dueTape("count", tree, 3);
         Check.due("current stays", tree.current(1), 0);
     }
 
+    /** Of the document's beginning: "in a balanced tree". */
     private static void balancedTreesAreLow() throws ReflectiveOperationException {
         for (int step : new int[] {1, FULL - 1}) {
             int height = (int) get(root(filled(FULL, step, false)), "height");
@@ -71,6 +95,7 @@ public final class CountTest {
         }
     }
 
+    /** "-1 if in the tree a height ... is not as it must be". */
     private static void wrongHeightsAreSeen() throws ReflectiveOperationException {
         for (String way : new String[] {"", "left", "right", "left right", "right left left"}) {
             for (int change : new int[] {-1, 1}) {
@@ -85,7 +110,10 @@ public final class CountTest {
         }
     }
 
-    /** Four versions are three high on one side only: without the other, the leaning alone is wrong. */
+    /**
+     * "-1 if in the tree ... a leaning ... is not as it must be". Four versions are three high on one
+     * side only: without the other, the leaning alone is wrong.
+     */
     private static void wrongLeaningsAreSeen() throws ReflectiveOperationException {
         leaningIsSeen(filled(4, 1, false), "left");
         leaningIsSeen(filled(4, 3, false), "right");
@@ -99,6 +127,7 @@ public final class CountTest {
         Check.due("leaning by two without " + lopped, tree.count(), -1);
     }
 
+    /** "-1 if in the tree ... the order is not as it must be". */
     private static void wrongOrdersAreSeen() throws ReflectiveOperationException {
         for (String way : new String[] {"", "left", "right", "left right", "right left left"}) {
             MomentTree tree = filled(20, 1, false);

@@ -1,94 +1,112 @@
 import java.util.NoSuchElementException;
 
-/** Promises 9 and 10: current and word. */
+/** Promise 9: current. */
 public final class CurrentTest {
     public static void main(String[] args) {
-        currentTellsEachNumber();
-        currentRefusesOtherNumbers();
-        wordTellsTheKey();
-        wordRefusesOtherPlaces();
+        eachNumberIsTold();
+        theEndsOfEachNumberAreTold();
+        otherNumbersAreRefused();
+        otherNumbersAreRefusedFirst();
+        noneIsCurrent();
+        noneIsCurrentAnyMore();
+        currentLeavesAllElse();
         Check.finish();
     }
 
-    private static void currentTellsEachNumber() {
+    /** "Of the CURRENT one: 0 MOMENT, 1 PLACE, 2 SIZE, 3 the length of its KEY." */
+    private static void eachNumberIsTold() {
         MomentTree tree = new MomentTree();
         Check.put(tree, "seven77", 11, 22, 33);
         Check.put(tree, "z", 44, 55, 66);
         Check.find(tree, "seven77", 11);
-        Check.write(tree, "dd");
         Check.due("moment", tree.current(0), 11);
         Check.due("place", tree.current(1), 22);
         Check.due("size", tree.current(2), 33);
         Check.due("length", tree.current(3), 7);
-        Check.due("the tape stays", Check.tapeLength(tree), 2);
-        Check.due("it stays current", tree.next(), 55);
+        tree.next();
+        Check.due("next moment", tree.current(0), 44);
+        Check.due("next place", tree.current(1), 55);
+        Check.due("next size", tree.current(2), 66);
+        Check.due("next length", tree.current(3), 1);
     }
 
-    private static void currentRefusesOtherNumbers() {
+    /** The same: the least and the greatest that there are. */
+    private static void theEndsOfEachNumberAreTold() {
         MomentTree tree = new MomentTree();
-        int[] wrong = {-1, 4, Integer.MIN_VALUE, Integer.MAX_VALUE};
-        for (int what : wrong) {
-            Check.dueThrow("wrong number first", IllegalArgumentException.class, () -> tree.current(what));
-        }
-        for (int what = 0; what < 4; what++) {
-            int told = what;
-            Check.dueThrow("none is current", NoSuchElementException.class, () -> tree.current(told));
-        }
+        Check.put(tree, "a", 0, -1, 0);
+        Check.put(tree, Check.repeated('b', 40), Integer.MAX_VALUE, Integer.MAX_VALUE, 1000);
+        tree.first();
+        Check.due("least moment", tree.current(0), 0);
+        Check.due("least place", tree.current(1), -1);
+        Check.due("least size", tree.current(2), 0);
+        Check.due("least length", tree.current(3), 1);
+        tree.next();
+        Check.due("greatest moment", tree.current(0), Integer.MAX_VALUE);
+        Check.due("greatest place", tree.current(1), Integer.MAX_VALUE);
+        Check.due("greatest size", tree.current(2), 1000);
+        Check.due("greatest length", tree.current(3), 40);
+    }
+
+    private static final int[] OTHERS = {-1, 4, 5, Integer.MIN_VALUE, Integer.MAX_VALUE};
+
+    /** Of "Terms": "IllegalArgumentException: a number out of range". */
+    private static void otherNumbersAreRefused() {
+        MomentTree tree = new MomentTree();
         Check.put(tree, "k", 1, 2, 3);
         tree.first();
-        for (int what : wrong) {
-            Check.dueThrow("wrong number", IllegalArgumentException.class, () -> tree.current(what));
+        for (int what : OTHERS) {
+            Check.dueThrow("current(" + what + ")", IllegalArgumentException.class,
+                    () -> tree.current(what));
         }
         Check.due("it stays current", tree.current(1), 2);
     }
 
-    private static void wordTellsTheKey() {
+    /** Of "Terms": "in this order". */
+    private static void otherNumbersAreRefusedFirst() {
         MomentTree tree = new MomentTree();
-        byte[] key = new byte[40];
-        for (int i = 0; i < key.length; i++) {
-            key[i] = (byte) (i * 6 + 21);
+        for (int what : OTHERS) {
+            Check.dueThrow("none is current, current(" + what + ")", IllegalArgumentException.class,
+                    () -> tree.current(what));
         }
-        Check.write(tree, key);
-        tree.put(1, 2, 3);
-        tree.first();
-        tree.feed(-1, -1, -1, -1, -1);
-        for (int i = 0; i < key.length; i++) {
-            long want = 0;
-            for (int at = i; at < i + 8; at++) {
-                want = want * 256 + (at < 40 ? Byte.toUnsignedInt(key[at]) : 0);
-            }
-            Check.due("word " + i, tree.word(i), want);
-        }
-        Check.due("the tape stays", Check.tapeLength(tree), 20);
-        wordsOfAShortKey();
     }
 
-    private static void wordsOfAShortKey() {
+    /** "None is: NoSuchElementException." */
+    private static void noneIsCurrent() {
         MomentTree tree = new MomentTree();
-        tree.feed(-1, -1, -1, -1, -1);
-        tree.end(9);
-        tree.put(1, 2, 3);
-        tree.first();
-        Check.due("8 bytes of 255", tree.word(0), -1L);
-        Check.due("8 bytes of 255 at the end", tree.word(1), -1L);
-        Check.due("a zero behind the end", tree.word(2), -256L);
-        Check.due("zeros behind the last", tree.word(8), 0xff00000000000000L);
+        Check.dueNoneCurrent("no version", tree);
+        Check.put(tree, "k", 1, 2, 3);
+        Check.dueNoneCurrent("none was gone to", tree);
     }
 
-    private static void wordRefusesOtherPlaces() {
+    /** The same, after one was. */
+    private static void noneIsCurrentAnyMore() {
         MomentTree tree = new MomentTree();
-        Check.dueThrow("none is current first", NoSuchElementException.class, () -> tree.word(-1));
-        Check.dueThrow("none is current", NoSuchElementException.class, () -> tree.word(0));
-        Check.put(tree, "abc", 1, 2, 3);
+        Check.put(tree, "k", 1, 2, 3);
         tree.first();
-        int[] wrong = {-1, 3, 4, 40, Integer.MIN_VALUE, Integer.MAX_VALUE};
-        for (int i : wrong) {
-            Check.dueThrow("word " + i, IndexOutOfBoundsException.class, () -> tree.word(i));
+        Check.dueThrow("next", NoSuchElementException.class, tree::next);
+        Check.dueNoneCurrent("behind the last", tree);
+        tree.first();
+        Check.dueThrow("find", NoSuchElementException.class, () -> Check.find(tree, "j", 1));
+        Check.dueNoneCurrent("not found", tree);
+        tree.first();
+        Check.dueThrow("seek", NoSuchElementException.class, () -> Check.seek(tree, "l", 1, false));
+        Check.dueNoneCurrent("not sought", tree);
+        tree.first();
+        tree.clear();
+        Check.dueNoneCurrent("cleared", tree);
+    }
+
+    private static void currentLeavesAllElse() {
+        MomentTree tree = new MomentTree();
+        Check.put(tree, "k", 1, 2, 3);
+        Check.put(tree, "l", 4, 5, 6);
+        tree.first();
+        Check.write(tree, "dd");
+        for (int what = 0; what < 4; what++) {
+            tree.current(what);
         }
-        Check.due("the last of them", tree.word(2), 0x6300000000000000L);
-        Check.put(tree, "b" + Check.repeated('b', 39), 1, 2, 3);
-        tree.next();
-        Check.dueThrow("40 of 40", IndexOutOfBoundsException.class, () -> tree.word(40));
-        Check.due("39 of 40", tree.word(39), 0x6200000000000000L);
+        Check.dueTape("current", tree, 2);
+        Check.due("what is behind it", tree.next(), 5);
+        Check.due("count", tree.count(), 2);
     }
 }
