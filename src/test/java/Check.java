@@ -51,18 +51,20 @@ final class Check {
         wrong(what + ": " + got + ", due is a throw of " + want.getName());
     }
 
-    /** Makes the call on a new object, and tells all of that object after it threw. */
+    /** Tells all of an object on which the call was made and threw. */
     static Told afterThrow(String what, Supplier<MomentTree> made,
             Class<? extends RuntimeException> want, CallOn call) {
-        MomentTree tree = made.get();
-        dueThrow(what, want, () -> call.answer(tree));
-        return Told.of(tree);
+        return Told.of(() -> {
+            MomentTree tree = made.get();
+            dueThrow(what, want, () -> call.answer(tree));
+            return tree;
+        });
     }
 
     /** The call throws, and all that can be told is as in an object on which it was not made. */
     static void changesNothing(String what, Supplier<MomentTree> made,
             Class<? extends RuntimeException> want, CallOn call) {
-        Told before = Told.of(made.get());
+        Told before = Told.of(made);
         Told after = afterThrow(what, made, want, call);
         due(what + ", current", after.current(), before.current());
         due(what + ", versions", after.versions(), before.versions());

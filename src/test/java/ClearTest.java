@@ -79,6 +79,6 @@ public final class ClearTest {
         MomentTree tree = withThree();
         tree.clear();
         Check.due("put", Check.put(tree, "b", 2, 30, 9), 1);
-        Check.due("versions", Told.of(tree).versions(), "1; 2 30 9 1 6200000000000000.");
+        Check.due("versions", Told.versionsOf(tree), "1; 2 30 9 1 6200000000000000.");
     }
 }

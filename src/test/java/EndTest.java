@@ -76,8 +76,7 @@ public final class EndTest {
         tree.first();
         Check.write(tree, "abc");
         tree.end(1);
-        Told told = Told.of(tree);
-        Check.due("current", told.current(), "1 2 3 1 6b00000000000000");
-        Check.due("versions", told.versions(), "1; 1 2 3 1 6b00000000000000.");
+        Check.due("current", Told.currentOf(tree), "1 2 3 1 6b00000000000000");
+        Check.due("versions", Told.versionsOf(tree), "1; 1 2 3 1 6b00000000000000.");
     }
 }

@@ -80,8 +80,7 @@ public final class FeedTest {
         Check.put(tree, "k", 1, 2, 3);
         tree.first();
         tree.feed(-1, -1, -1, -1, -1);
-        Told told = Told.of(tree);
-        Check.due("current", told.current(), "1 2 3 1 6b00000000000000");
-        Check.due("versions", told.versions(), "1; 1 2 3 1 6b00000000000000.");
+        Check.due("current", Told.currentOf(tree), "1 2 3 1 6b00000000000000");
+        Check.due("versions", Told.versionsOf(tree), "1; 1 2 3 1 6b00000000000000.");
     }
 }

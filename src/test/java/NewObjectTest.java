@@ -46,6 +46,6 @@ public final class NewObjectTest {
         Check.dueNoneCurrent("beside a used one", tree);
         Check.put(tree, "c", 2, 2, 2);
         tree.clear();
-        Check.due("the used one stays", Told.of(used).versions(), "1; 1 1 1 1 6100000000000000.");
+        Check.due("the used one stays", Told.versionsOf(used), "1; 1 1 1 1 6100000000000000.");
     }
 }

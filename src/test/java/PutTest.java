@@ -213,7 +213,7 @@ public final class PutTest {
         Check.put(tree, "k", 1, 10, 1);
         Check.due("later", Check.put(tree, "k", 2, 20, 2), 2);
         Check.due("earlier", Check.put(tree, "k", 0, 0, 3), 3);
-        Check.due("versions", Told.of(tree).versions(),
+        Check.due("versions", Told.versionsOf(tree),
                 "3; 2 20 2 1 6b00000000000000; 1 10 1 1 6b00000000000000; 0 0 3 1 6b00000000000000.");
     }
 

@@ -123,10 +123,10 @@ public final class TapeTest {
         MomentTree tree = withTwo();
         Check.write(tree, Check.repeated('a', length));
         Check.dueThrow(what, IllegalArgumentException.class, () -> call.answer(tree));
-        Check.due(what, Told.of(tree).tape(), "of " + length + ": 0 0 0 " + Math.min(length, 40) + bytes);
+        Check.due(what, Told.tapeOf(tree), "of " + length + ": 0 0 0 " + Math.min(length, 40) + bytes);
     }
 
-    /** Only "a call that reads it leaves it empty". */
+    /** "A call that reads it": no other. */
     private static void callsThatDoNotReadItLeaveIt() {
         stays("next", MomentTree::next);
         stays("first", MomentTree::first);
@@ -141,9 +141,10 @@ public final class TapeTest {
         tree.first();
         Check.write(tree, "aa");
         call.answer(tree);
-        Check.due(what + " leaves the tape", Told.of(tree).tape(), ON_TAPE);
+        Check.due(what + " leaves the tape", Told.tapeOf(tree), ON_TAPE);
     }
 
+    /** The same. */
     private static void callsThatDoNotReadItLeaveItThoughTheyThrow() {
         staysAfterThrow("next", NoSuchElementException.class, MomentTree::next);
         staysAfterThrow("first", NoSuchElementException.class, MomentTree::first);
@@ -157,7 +158,7 @@ public final class TapeTest {
         MomentTree tree = new MomentTree();
         Check.write(tree, "aa");
         Check.dueThrow(what, want, () -> call.answer(tree));
-        Check.due(what + " that throws leaves the tape", Told.of(tree).tape(), ON_TAPE);
+        Check.due(what + " that throws leaves the tape", Told.tapeOf(tree), ON_TAPE);
     }
 
     /** "empty": what is written afterwards stands alone. */

@@ -88,7 +88,7 @@ public final class ThrowTest {
         Check.dueThrow("then none is sought", NONE, () -> tree.seek(0, false));
     }
 
-    /** "IllegalArgumentException: a number out of range; then as the call says": current. */
+    /** "IllegalArgumentException: a number out of range", "then as the call says": current. */
     private static void illegalNumbersComeBeforeNoCurrentOne() {
         MomentTree tree = withoutCurrent(0);
         Check.dueThrow("below", ILLEGAL, () -> tree.current(-1));
@@ -145,7 +145,7 @@ public final class ThrowTest {
 
     /** "but as said": "IllegalStateException (the TAPE is empty then)". */
     private static void putWithoutRoomEmptiesTheTapeAlone() {
-        Told before = Told.of(fullWithTape());
+        Told before = Told.of(ThrowTest::fullWithTape);
         Told after = Check.afterThrow("put without room", ThrowTest::fullWithTape,
                 IllegalStateException.class, tree -> tree.put(0, 999, 9));
         Check.due("put without room, tape", after.tape(), "empty");
@@ -184,7 +184,7 @@ public final class ThrowTest {
     }
 
     private static void missed(String what, int length, Check.CallOn call) {
-        Told before = Told.of(withTape(length));
+        Told before = Told.of(() -> withTape(length));
         Told after = Check.afterThrow(what, () -> withTape(length), NONE, call);
         Check.due(what + ", tape", after.tape(), "empty");
         Check.due(what + ", current", after.current(), "none");
@@ -200,7 +200,7 @@ public final class ThrowTest {
 
     /** "but as said": "and none is". */
     private static void nextThatMissesChangesWhatIsSaid() {
-        Told before = Told.of(atTheLast());
+        Told before = Told.of(ThrowTest::atTheLast);
         Told after = Check.afterThrow("next", ThrowTest::atTheLast, NONE, MomentTree::next);
         Check.due("next behind the last, tape", after.tape(), before.tape());
         Check.due("next behind the last, current", after.current(), "none");

@@ -1,18 +1,18 @@
 import java.util.NoSuchElementException;
+import java.util.function.Supplier;
 
-/** All that the calls can tell of an object; telling it uses the object up. */
+/** All that the calls can tell of an object. */
 record Told(String current, String versions, String tape) {
     // A walk through all of so many would go beyond the 512 calls if it told more than places.
     private static final int FEW = 20;
     private static final int MOST = 160;
 
-    static Told of(MomentTree tree) {
-        String current = currentOne(tree);
-        String versions = walk(tree);
-        return new Told(current, versions, tape(tree));
+    /** Each part is told of an object of its own, as telling one may blur another. */
+    static Told of(Supplier<MomentTree> made) {
+        return new Told(currentOf(made.get()), versionsOf(made.get()), tapeOf(made.get()));
     }
 
-    private static String currentOne(MomentTree tree) {
+    static String currentOf(MomentTree tree) {
         int length;
         try {
             length = tree.current(3);
@@ -28,13 +28,13 @@ record Told(String current, String versions, String tape) {
         return text.toString();
     }
 
-    private static String walk(MomentTree tree) {
+    static String versionsOf(MomentTree tree) {
         int count = tree.count();
         StringBuilder text = new StringBuilder().append(count);
         try {
             int place = tree.first();
             for (int i = 0; i < MOST; i++) {
-                text.append("; ").append(count <= FEW ? currentOne(tree) : place);
+                text.append("; ").append(count <= FEW ? currentOf(tree) : place);
                 place = tree.next();
             }
             text.append("; more");
@@ -45,7 +45,7 @@ record Told(String current, String versions, String tape) {
     }
 
     /** No call tells a byte behind the 40th: of a longer tape the length and the first 40. */
-    private static String tape(MomentTree tree) {
+    static String tapeOf(MomentTree tree) {
         int length = tapeLength(tree);
         if (length == 0) {
             return "empty";
@@ -54,7 +54,7 @@ record Told(String current, String versions, String tape) {
         tree.clear();
         tree.put(0, 0, 0);
         tree.first();
-        return "of " + length + ": " + currentOne(tree);
+        return "of " + length + ": " + currentOf(tree);
     }
 
     private static int tapeLength(MomentTree tree) {
