@@ -31,7 +31,7 @@ import javax.tools.JavaFileObject;
 import javax.tools.SimpleJavaFileObject;
 import javax.tools.ToolProvider;
 
-/** The rules of LANGUAGE.md that can be seen from the program's text alone; rule 1 also in FaceTest. */
+/** Of rules 1, 2, 4, 5, 6, 10 and 11 of LANGUAGE.md what is plain from the text; 1 also in FaceTest. */
 public final class LanguageTest {
     /** What stands there above rule 1. */
     private static final int HEAD = 0;
